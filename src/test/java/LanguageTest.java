@@ -28,17 +28,23 @@ final class LanguageTest {
     }
 
     static void promise01_language_shortMethods() throws IOException {
-        int opened = 0;
         String[] lines = code().split("\n");
-        for (int i = 0; i < lines.length; i++) {
-            if (lines[i].matches("    (?:    )?\\S.*\\{") && !lines[i].contains("class ")) {
-                opened = i;
-            }
-            if (lines[i].matches("    (?:    )?\\}")) {
-                Check.same("line " + (i + 1) + " ends a short method", i - opened <= LONGEST_METHOD
-                        || lines[i].equals("    }"), true);
+        for (int opened = 0; opened < lines.length; opened++) {
+            if (lines[opened].matches("(    |        )\\S.*\\{") && !lines[opened].contains(" class ")) {
+                Check.same("line " + (opened + 1) + " begins a short block",
+                        closedAt(lines, opened) - opened <= LONGEST_METHOD, true);
             }
         }
+    }
+
+    private static int closedAt(String[] lines, int opened) {
+        String indent = lines[opened].replaceAll("\\S.*", "");
+        for (int line = opened + 1; line < lines.length; line++) {
+            if (lines[line].startsWith(indent + "}")) {
+                return line;
+            }
+        }
+        return Integer.MAX_VALUE;
     }
 
     private static String code() throws IOException {

@@ -85,6 +85,11 @@ final class OrderTextTest {
         errorAt("s0=10000", 7);
         errorAt("a0=99990", 7);
         errorAt("s0=1x", 4);
+        errorAt("s0=:", 3);
+        errorAt("s0=/", 3);
+        errorAt("s0=9:", 4);
+        errorAt("a0=9/", 4);
+        errorAt("r012/", 4);
         errorAt("c8", 1);
         errorAt("o8", 1);
         errorAt("c;", 1);
