@@ -31,7 +31,7 @@ final class FaceTest {
     private FaceTest() {
     }
 
-    static void promise01_face_constants() throws ReflectiveOperationException {
+    static void whole_face_constants() throws ReflectiveOperationException {
         Check.same("NONE", NestedEnvelopes.NONE, -1);
         Check.same("TRAVELLER", NestedEnvelopes.TRAVELLER, 8);
         Set<String> visible = new TreeSet<>();
@@ -44,20 +44,20 @@ final class FaceTest {
                 "[public static final int NONE, public static final int TRAVELLER]");
     }
 
-    static void promise01_face_class() {
+    static void whole_face_class() {
         int modifiers = NestedEnvelopes.class.getModifiers();
         Check.same("public final", Modifier.isPublic(modifiers) && Modifier.isFinal(modifiers), true);
         Constructor<?>[] constructors = NestedEnvelopes.class.getDeclaredConstructors();
         Check.same("constructors", constructors.length, 1);
         Check.sameText("constructor", constructors[0].toString(), "public NestedEnvelopes()");
         for (Class<?> inside : NestedEnvelopes.class.getDeclaredClasses()) {
-            boolean isHidden = !Modifier.isPublic(inside.getModifiers()) && !Modifier.isProtected(inside.getModifiers());
-            Check.same(inside + " is hidden", isHidden, true);
+            Check.same(inside + " is public", Modifier.isPublic(inside.getModifiers()), false);
+            Check.same(inside + " is protected", Modifier.isProtected(inside.getModifiers()), false);
             Check.same(inside + " is static", Modifier.isStatic(inside.getModifiers()), true);
         }
     }
 
-    static void promise01_face_methods() {
+    static void whole_face_methods() {
         Set<String> visible = new TreeSet<>();
         Set<String> names = new HashSet<>();
         List<String> hidden = new ArrayList<>();

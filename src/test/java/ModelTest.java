@@ -1,9 +1,9 @@
 import java.util.function.LongSupplier;
 
-/** Runs of 512 drawn calls, each made on the class and on the model, whose answers must agree. */
+/** Runs of 512 drawn calls, the most that an object serves, whose answers must agree with the model's. */
 final class ModelTest {
 
-    private static final int RUNS = 300;
+    private static final int RUNS = 1500;
     private static final int CALLS = 512;
     private static final String SIGNS = "rsacot;=0123456789x";
 
@@ -12,18 +12,19 @@ final class ModelTest {
     private final NestedEnvelopes x = new NestedEnvelopes();
     private final Model model = new Model();
     private String tail = "";
+    private int calls;
 
     private ModelTest(int run) {
         seed = 77777L * run + 5;
         style = run % 3;
     }
 
-    static void promise01_all_modelAgrees() {
+    static void whole_modelAgrees() {
         for (int run = 0; run < RUNS; run++) {
             ModelTest test = new ModelTest(run);
-            for (int call = 0; call < CALLS; call++) {
+            while (test.calls < CALLS) {
                 if (!test.step()) {
-                    Check.sameText("run " + run + ", call " + call, test.tail, "the same as the model");
+                    Check.sameText("run " + run + ", call " + test.calls, test.tail, "the same as the model");
                     return;
                 }
             }
@@ -56,7 +57,12 @@ final class ModelTest {
         return kind == 0 ? 0 : kind == 1 ? 9999 : near(0, 9999);
     }
 
+    // Beyond the last call that the document speaks of there is nothing to agree on.
     private boolean agree(String call, LongSupplier got, LongSupplier due) {
+        if (calls == CALLS) {
+            return true;
+        }
+        calls++;
         String one = answerOf(got);
         String other = answerOf(due);
         tail = call + " answered " + one + ", due is " + other;
@@ -100,7 +106,7 @@ final class ModelTest {
         int third = near(0, 7);
         int hall = near(0, 3);
         int body = body();
-        int road = near(0, Math.max(0, x.roads() - 1));
+        int road = near(0, (int) Math.max(0, model.roads() - 1));
         switch (kind) {
             case 0: case 1:
                 return agree("lay " + inn + other + third + hall, () -> x.lay(inn, other, third, hall),
@@ -167,22 +173,24 @@ final class ModelTest {
 
     private boolean ask(int kind) {
         int inn = near(0, 7);
-        int road = near(0, Math.max(0, x.roads() - 1));
-        int envelope = near(0, Math.max(0, x.envelopes() - 1));
+        int road = near(0, (int) Math.max(0, model.roads() - 1));
+        int envelope = near(0, (int) Math.max(0, model.envelopes() - 1));
         int small = near(0, 4);
         int body = body();
         switch (kind) {
             case 0: return agree("isOpen " + inn, () -> bit(x.isOpen(inn)), () -> model.isOpen(inn));
             case 1: return agree("key " + inn, () -> x.key(inn), () -> model.key(inn));
             case 2: return agree("cover " + inn + " " + body, () -> x.cover(inn, body), () -> model.cover(inn, body));
-            case 3: return agree("uncover " + inn + " " + body, () -> x.uncover(inn, body), () -> model.uncover(inn, body));
+            case 3: return agree("uncover " + inn + " " + body, () -> x.uncover(inn, body),
+                    () -> model.uncover(inn, body));
             case 4: return agree("roads", x::roads, model::roads);
             case 5: return agree("inn " + road + " " + small, () -> x.inn(road, small), () -> model.inn(road, small));
             case 6: return agree("hall " + road, () -> x.hall(road), () -> model.hall(road));
             case 7: return agree("stands " + road, () -> bit(x.stands(road)), () -> model.stands(road));
             case 8: case 9: {
                 int side = near(0, 1);
-                return agree("see " + inn + road + side, () -> x.see(inn, road, side), () -> model.see(inn, road, side));
+                return agree("see " + inn + road + side, () -> x.see(inn, road, side),
+                        () -> model.see(inn, road, side));
             }
             case 10: return agree("known " + inn, () -> x.known(inn), () -> model.known(inn));
             case 11: return agree("envelopes", x::envelopes, model::envelopes);
