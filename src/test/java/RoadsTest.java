@@ -285,6 +285,12 @@ final class RoadsTest {
                 boolean isBeside = closed < road || closed > road + 2;
                 Check.same("stands(" + road + ") without " + closed, x.stands(road), isBeside);
             }
+            NestedEnvelopes y = Given.fresh();
+            y.lay(1, 2, 3, 0);
+            y.lay(4, 5, 6, 0);
+            y.setOpen(closed, false);
+            Check.same("stands(0) of 1, 2, 3 without " + closed, y.stands(0), closed < 1 || closed > 3);
+            Check.same("stands(1) of 4, 5, 6 without " + closed, y.stands(1), closed < 4 || closed > 6);
         }
     }
 
