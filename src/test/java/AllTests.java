@@ -6,18 +6,20 @@ import java.util.Comparator;
 import java.util.List;
 
 /**
- * Runs every method whose name begins with "promise" and its number, "terms" or "whole"; its arguments
- * are the source's path and the document's.
+ * Runs every method whose name begins with "promise" and its number, "what", "face", "terms" or "whole";
+ * its arguments are the paths of the source, the document and README.md.
  */
 public final class AllTests {
 
-    private static final Class<?>[] TESTS = {TermsTest.class, EnvelopeTermsTest.class, OrderTermsTest.class,
-        UndoTermsTest.class, InnsTest.class, RoadsTest.class, EnvelopesTest.class, ForecastsTest.class,
-        OrderTextTest.class, UndoTest.class, FaceTest.class, LanguageTest.class, DocTest.class, ModelTest.class};
+    private static final Class<?>[] TESTS = {WhatTest.class, FaceTest.class, TermsTest.class,
+        EnvelopeTermsTest.class, OrderTermsTest.class, UndoTermsTest.class, InnsTest.class, RoadsTest.class,
+        EnvelopesTest.class, ForecastsTest.class, OrderTextTest.class, UndoTest.class, DocTest.class,
+        LanguageTest.class, ReadmeTest.class, ModelTest.class};
     private static final int MOST_LINES = 10;
 
     private static String source = "src/main/java/NestedEnvelopes.java";
     private static String document = "../shared/DOC.md";
+    private static String readme = "README.md";
 
     private AllTests() {
     }
@@ -30,10 +32,19 @@ public final class AllTests {
         return document;
     }
 
+    static String readme() {
+        return readme;
+    }
+
+    static Class<?>[] classes() {
+        return TESTS.clone();
+    }
+
     public static void main(String[] args) throws ReflectiveOperationException {
-        if (args.length > 1) {
+        if (args.length > 2) {
             source = args[0];
             document = args[1];
+            readme = args[2];
         }
         int passed = 0;
         int failed = 0;
@@ -54,7 +65,7 @@ public final class AllTests {
         List<Method> methods = new ArrayList<>();
         for (Class<?> test : TESTS) {
             for (Method method : test.getDeclaredMethods()) {
-                if (method.getName().matches("(promise[0-9][0-9]|terms|whole)_.*")) {
+                if (method.getName().matches("(promise[0-9][0-9]|what|face|terms|whole)_.*")) {
                     methods.add(method);
                 }
             }

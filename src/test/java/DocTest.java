@@ -2,41 +2,43 @@ import java.io.IOException;
 import java.lang.reflect.Method;
 import java.nio.file.Files;
 import java.nio.file.Path;
-import java.util.ArrayList;
 import java.util.List;
+import java.util.Map;
+import java.util.TreeMap;
 
-/** Each sentence of the document's Terms and promises is quoted by a test, and each quote stands there. */
+/** Each sentence of the document is quoted by a test, and each quote stands in the section of its test. */
 final class DocTest {
 
-    private static final int PROMISES = 34;
+    private static final int SECTIONS = 36;
     private static final String[] NO_CASE = {"Inns, covers", "The constants:",
-        "All numbers are integers, except for deliveredShare()."};
+        "All numbers are integers, except for deliveredShare().", "what later calls answer is free."};
 
     private DocTest() {
     }
 
-    /** The Terms at 0, and the promises at their numbers. */
-    private static List<String> sections() throws IOException {
-        List<String> sections = new ArrayList<>();
-        for (int number = 0; number <= PROMISES; number++) {
-            sections.add("");
-        }
-        int current = -1;
+    /** The sections by the names with which their tests begin, but for those that FaceTest compares. */
+    private static Map<String, String> sections() throws IOException {
+        Map<String, String> sections = new TreeMap<>();
+        String current = "";
         for (String line : Files.readAllLines(Path.of(AllTests.document()))) {
             if (line.startsWith("## ")) {
-                current = numberOf(line);
-            } else if (current >= 0 && !line.startsWith("#") && !isOnlyOfOrder(line)) {
-                sections.set(current, sections.get(current) + withoutFace(line) + "\n");
+                current = nameOf(line);
+            } else if (!current.isEmpty() && !line.startsWith("#") && !isOnlyOfOrder(line)) {
+                sections.merge(current, withoutFace(line) + "\n", String::concat);
             }
         }
         return sections;
     }
 
-    private static int numberOf(String heading) {
-        if (heading.equals("## Terms")) {
-            return 0;
+    private static String nameOf(String heading) {
+        if (heading.startsWith("## Promise ")) {
+            int number = Integer.parseInt(heading.replaceAll("\\D", ""));
+            return number < 10 ? "promise0" + number : "promise" + number;
         }
-        return heading.startsWith("## Promise ") ? Integer.parseInt(heading.replaceAll("\\D", "")) : -1;
+        if (heading.equals("## What it is")) {
+            return "what";
+        }
+        return heading.equals("## Terms") ? "terms" : "";
     }
 
     // Most of these lines say but how the face is grouped.
@@ -44,13 +46,12 @@ final class DocTest {
         return line.startsWith("Ahead of the calls") && !line.contains(";");
     }
 
-    // FaceTest looks at the face.
     private static String withoutFace(String line) {
         return line.replaceAll("^`[^`]*\\(.*?\\)[^`]*`: ", "");
     }
 
-    private static int sectionOf(Method test) {
-        return test.getName().startsWith("promise") ? Integer.parseInt(test.getName().substring(7, 9)) : 0;
+    private static boolean isOf(Method test, String section) {
+        return test.getName().startsWith(section + "_") && test.isAnnotationPresent(Says.class);
     }
 
     private static boolean mark(String section, String quote, boolean[] said) {
@@ -66,22 +67,24 @@ final class DocTest {
     }
 
     static void whole_eachSentenceHasATest() throws IOException {
-        List<String> sections = sections();
+        Map<String, String> sections = sections();
+        Check.same("sections", sections.size(), SECTIONS);
         List<Method> tests = AllTests.tests();
-        for (int number = 0; number <= PROMISES; number++) {
-            String section = sections.get(number);
+        for (Map.Entry<String, String> each : sections.entrySet()) {
+            String section = each.getValue();
             boolean[] said = new boolean[section.length()];
             for (String quote : NO_CASE) {
                 mark(section, quote, said);
             }
             for (Method test : tests) {
-                if (test.isAnnotationPresent(Says.class) && sectionOf(test) == number) {
+                if (isOf(test, each.getKey())) {
                     for (String quote : test.getAnnotation(Says.class).value()) {
-                        Check.same("the document says '" + quote + "' in " + number, mark(section, quote, said), true);
+                        Check.same("the document says '" + quote + "' in " + each.getKey(),
+                                mark(section, quote, said), true);
                     }
                 }
             }
-            Check.sameText("what no test says of " + number, unsaid(section, said), "");
+            Check.sameText("what no test says of " + each.getKey(), unsaid(section, said), "");
         }
     }
 
@@ -96,7 +99,7 @@ final class DocTest {
 
     static void whole_eachTestSaysWhatItIsOf() {
         for (Method test : AllTests.tests()) {
-            if (!test.getName().startsWith("whole_")) {
+            if (!test.getName().matches("(whole|face)_.*")) {
                 Check.same(test.getName() + " quotes the document", test.isAnnotationPresent(Says.class), true);
             }
         }

@@ -1,13 +1,18 @@
+import java.io.IOException;
 import java.lang.reflect.Constructor;
 import java.lang.reflect.Field;
 import java.lang.reflect.Method;
 import java.lang.reflect.Modifier;
+import java.nio.file.Files;
+import java.nio.file.Path;
 import java.util.ArrayList;
 import java.util.Arrays;
 import java.util.HashSet;
 import java.util.List;
 import java.util.Set;
 import java.util.TreeSet;
+import java.util.regex.Matcher;
+import java.util.regex.Pattern;
 
 /** The public face is the document's, and nothing beside it can be seen from outside. */
 final class FaceTest {
@@ -31,7 +36,7 @@ final class FaceTest {
     private FaceTest() {
     }
 
-    static void whole_face_constants() throws ReflectiveOperationException {
+    static void face_constants() throws ReflectiveOperationException {
         Check.same("NONE", NestedEnvelopes.NONE, -1);
         Check.same("TRAVELLER", NestedEnvelopes.TRAVELLER, 8);
         Set<String> visible = new TreeSet<>();
@@ -44,7 +49,7 @@ final class FaceTest {
                 "[public static final int NONE, public static final int TRAVELLER]");
     }
 
-    static void whole_face_class() {
+    static void face_class() {
         int modifiers = NestedEnvelopes.class.getModifiers();
         Check.same("public final", Modifier.isPublic(modifiers) && Modifier.isFinal(modifiers), true);
         Constructor<?>[] constructors = NestedEnvelopes.class.getDeclaredConstructors();
@@ -57,7 +62,7 @@ final class FaceTest {
         }
     }
 
-    static void whole_face_methods() {
+    static void face_methods() {
         Set<String> visible = new TreeSet<>();
         Set<String> names = new HashSet<>();
         List<String> hidden = new ArrayList<>();
@@ -77,6 +82,72 @@ final class FaceTest {
         }
         hidden.retainAll(names);
         Check.sameText("hidden methods with a public one's name", hidden.toString(), "[]");
+    }
+
+    // ---- the face as the document writes it, with the names of the parameters
+
+    /** All that is public in the source, as the document would write it. */
+    private static List<String> publicInSource() throws IOException {
+        List<String> found = new ArrayList<>();
+        Matcher matcher = Pattern.compile("\\bpublic [^;{]*[;{]").matcher(LanguageTest.code());
+        while (matcher.find()) {
+            String text = matcher.group().replaceAll("\\s+", " ").replaceAll(" ?[;{]$", "");
+            found.add(text.contains("class") ? text + " {" : text + ";");
+        }
+        return found;
+    }
+
+    static void face_isWrittenAsInTheDocument() throws IOException {
+        List<String> due = new ArrayList<>();
+        for (String line : Files.readAllLines(Path.of(AllTests.document()))) {
+            if (line.strip().startsWith("public ")) {
+                due.add(line.strip());
+            }
+        }
+        Check.sameText("all that is public", String.join("\n", publicInSource()), String.join("\n", due));
+    }
+
+    static void face_promisesHaveTheirMethods() throws IOException {
+        List<String> methods = publicInSource();
+        int promises = 0;
+        for (String line : Files.readAllLines(Path.of(AllTests.document()))) {
+            Matcher face = Pattern.compile("`([^`]*\\(.*?\\)[^`]*)`: .*").matcher(line);
+            if (face.matches()) {
+                promises++;
+                Check.same("there is " + face.group(1), methods.contains("public " + face.group(1) + ";"), true);
+            }
+        }
+        Check.same("promises", promises, 34);
+    }
+
+    static void face_isGroupedAsInTheDocument() throws IOException {
+        String source = Files.readString(Path.of(AllTests.source()));
+        Pattern group = Pattern.compile("Ahead of the calls (.*) the interface says: (---- .*)\\.");
+        int groups = 0;
+        for (String line : Files.readAllLines(Path.of(AllTests.document()))) {
+            Matcher said = group.matcher(line);
+            if (said.matches()) {
+                groups++;
+                String calls = said.group(1).replace("`", "");
+                Check.sameText("the calls behind " + said.group(2), callsBehind(source, said.group(2)), calls);
+            }
+        }
+        Check.same("groups", groups, 6);
+    }
+
+    /** The public methods between this comment and the next of its kind. */
+    private static String callsBehind(String source, String comment) {
+        int start = source.indexOf("    // " + comment + "\n");
+        if (start < 0) {
+            return "no such comment";
+        }
+        int next = source.indexOf("    // ----", start + 1);
+        List<String> calls = new ArrayList<>();
+        Matcher method = Pattern.compile("public \\w+ (\\w+)\\(").matcher(source.substring(start, next));
+        while (method.find()) {
+            calls.add(method.group(1));
+        }
+        return String.join(", ", calls);
     }
 
     private static String signature(Method method) {

@@ -7,6 +7,10 @@ import java.nio.file.Path;
 import java.util.ArrayList;
 import java.util.Arrays;
 import java.util.List;
+import java.util.Map;
+import java.util.Set;
+import java.util.TreeMap;
+import java.util.TreeSet;
 import java.util.regex.Matcher;
 import java.util.regex.Pattern;
 
@@ -22,6 +26,7 @@ final class LanguageTest {
     private static final int MOST_PARAMETERS = 7;
     private static final int MOST_CLASSES = 12;
     private static final int MOST_FIELDS = 20;
+    private static final int DEEPEST_CALL = 8;
 
     private LanguageTest() {
     }
@@ -45,6 +50,55 @@ final class LanguageTest {
                         closedAt(lines, opened) - opened <= LONGEST_METHOD, true);
             }
         }
+    }
+
+    // What all calls of a run make has its limit, so that only constructors and thrown exceptions make objects.
+    static void whole_language_callsMakeNothing() throws IOException {
+        String head = "^( +)(?:public )?(?:NestedEnvelopes|State|SavedStates|OrderText)\\(\\) \\{";
+        String code = code().replaceAll("(?ms)" + head + ".*?^\\1\\}", "").replace("throw new", "throw");
+        for (String word : new String[] {"new", "clone", "copyOf", "copyOfRange", "String", "StringBuilder"}) {
+            Check.same("a call uses " + word, Pattern.compile("\\b" + word + "\\b").matcher(code).find(), false);
+        }
+    }
+
+    static void whole_language_callsAreNotDeep() throws IOException {
+        Map<String, Set<String>> callsOf = callsOf();
+        Check.same("the source has methods", callsOf.size() > NestedEnvelopes.class.getDeclaredMethods().length, true);
+        for (String method : callsOf.keySet()) {
+            Check.same(method + " goes at most " + DEEPEST_CALL + " deep",
+                    depth(method, callsOf, DEEPEST_CALL + 1) <= DEEPEST_CALL, true);
+        }
+    }
+
+    /** The methods by their names, with the names of those that they call; the same name is taken for one. */
+    private static Map<String, Set<String>> callsOf() throws IOException {
+        String[] lines = code().split("\n");
+        Pattern method = Pattern.compile("(    |        )[a-z]\\w*(?:\\[\\])?(?: [\\w\\[\\]]+)* (\\w+)\\(.*");
+        Map<String, Set<String>> callsOf = new TreeMap<>();
+        for (int opened = 0; opened < lines.length; opened++) {
+            Matcher head = method.matcher(lines[opened]);
+            if (head.matches() && !lines[opened].endsWith(";") && !lines[opened].contains("=")) {
+                Set<String> calls = callsOf.computeIfAbsent(head.group(2), name -> new TreeSet<>());
+                int closed = closedAt(lines, opened);
+                Matcher call = Pattern.compile("(\\w+)\\(")
+                        .matcher(String.join("\n", Arrays.asList(lines).subList(opened + 1, closed)));
+                while (call.find()) {
+                    calls.add(call.group(1));
+                }
+            }
+        }
+        return callsOf;
+    }
+
+    /** How many calls stand open at once, counted up to a limit, which a call of itself would reach. */
+    private static int depth(String method, Map<String, Set<String>> callsOf, int limit) {
+        int deepest = 0;
+        if (limit > 0) {
+            for (String called : callsOf.getOrDefault(method, Set.of())) {
+                deepest = Math.max(deepest, depth(called, callsOf, limit - 1));
+            }
+        }
+        return deepest + 1;
     }
 
     private static List<Class<?>> classes() {
@@ -87,7 +141,8 @@ final class LanguageTest {
         return Integer.MAX_VALUE;
     }
 
-    private static String code() throws IOException {
+    /** The source without its comments. */
+    static String code() throws IOException {
         String source = Files.readString(Path.of(AllTests.source()));
         return source.replaceAll("(?s)/\\*.*?\\*/", "").replaceAll("//[^\n]*", "");
     }
